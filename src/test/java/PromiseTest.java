@@ -110,6 +110,7 @@ public final class PromiseTest {
         due("kingdom(): a KERB told again", told(x, "k02;"), 1);
         due("cell(2, 1)", x.cell(2, 1), 0);
         due("kingdom(): 32 STATEMENTS", told(x, "x0;".repeat(32)), 32);
+        due("kingdom() of no letters, after others", x.kingdom(), -1000);
         String[] texts = {
             "", "z", ";", "c", "c0", "c001", "c001x", "mM0;", "mm", "mm0", "mm0:", "x00;", "s1;", "mm0;;", "mm0;q",
             "c250;z", "k0a;", "w1/;", "b0:;", "C001;"};
@@ -352,6 +353,9 @@ public final class PromiseTest {
         due("THERE at once", x.comes(-1), 0);
         due("THERE without MINISTERS", new SovereignInBarrow().comes(-1), -9);
         due("an OPPOSITE never comes", kingdomOf("mo0;b24;g00;").comes(-1), -9);
+        SovereignInBarrow late = kingdomOf("mo1;mo2;ms0;c064;c154;c231;s10;");
+        dueAll("THERE behind 61 STEPS, and 60", all(late.comes(-1), late.comes(24), late.goes(1), late.comes(-1), late.comes(24)),
+                -9, -9, late.count(2), 60, 60);
         no(x, "comes(25)", -1, () -> x.comes(25));
         no(x, "comes(-2)", -1, () -> x.comes(-2));
     }
@@ -365,6 +369,7 @@ public final class PromiseTest {
         SovereignInBarrow full = kingdomOf("mm0;w20;s60;s39;");
         dueAll("with 99 no more", all(full.down(0), full.down(-1)), -9, -9);
         due("without MINISTERS", new SovereignInBarrow().down(-1), -9);
+        due("WEIGHT just held", kingdomOf("mm0;w06;").down(0), -9);
         no(x, "down(3)", -1, () -> x.down(3));
         no(x, "down(-2)", -1, () -> x.down(-2));
     }
@@ -377,6 +382,11 @@ public final class PromiseTest {
         // It stays for 11 STEPS, until the SPEAKER's turn falls on one that 4 divides.
         SovereignInBarrow eleven = kingdomOf("md1;md1;ms2;k01;k19;");
         dueAll("eleven STEPS", all(eleven.comes(5), eleven.then(11, 0), eleven.stuck()), 12, 0, 19);
+        SovereignInBarrow twelve = kingdomOf("s03;md1;md1;ms2;md1;md1;k01;");
+        dueAll("twelve STEPS", all(twelve.comes(5), twelve.then(12, 0), twelve.stuck()), 13, 0, 0);
+        due("WEIGHT just held", kingdomOf("mm0;w06;").stuck(), 8);
+        SovereignInBarrow late = kingdomOf("mo1;mo2;ms0;c064;c154;c231;s10;");
+        dueAll("behind 61 STEPS, and 60", all(late.stuck(), late.goes(1), late.stuck()), -9, late.count(2), 60);
     }
 
     private static void climb() {
@@ -387,6 +397,9 @@ public final class PromiseTest {
         dueAll("climb", all(x.climb(24, 0), x.climb(24, 1), x.climb(6, 0)), 2, 3, 3);
         x.heaps(0, 9);
         dueAll("from above", all(x.climb(5, 0), x.climb(24, 0)), 0, 0);
+        // Only the way round by the last row goes to 2 without a climb, over the KERB in it.
+        SovereignInBarrow round = kingdomOf("b00;c011;c061;c111;c161;c031;c081;c131;c181;c231;k22;");
+        dueAll("round", all(round.climb(2, 0), round.climb(2, 1), round.climb(24, 0)), 0, 1, 1);
         no(x, "climb(25, 2)", -1, () -> x.climb(25, 2));
         no(x, "climb(-1, 0)", -1, () -> x.climb(-1, 0));
         no(x, "climb(0, 2)", -2, () -> x.climb(0, 2));
@@ -396,6 +409,7 @@ public final class PromiseTest {
     private static void push() {
         dueAll("push", all(kingdomOf("mm0;mr0;mr5;k05;").push(), kingdomOf("mm0;mm1;").push()), 1, -9);
         due("never as it is", kingdomOf("mo9;mm0;").push(), 1);
+        due("the least", kingdomOf("mm0;mo9;mm0;x0;x2;").push(), 0);
         due("without MINISTERS", new SovereignInBarrow().push(), -9);
         due("AT the GOAL", kingdomOf("mm0;mr0;g00;").push(), -9);
         SovereignInBarrow x = kingdomOf("mm0;mr0;k05;");
@@ -410,6 +424,7 @@ public final class PromiseTest {
         due("not sooner", kingdomOf("mm0;mr0;k05;k10;").take(), -9);
         due("sooner", kingdomOf("mm0;mr0;k15;").take(), 15);
         due("no KERBS", kingdomOf("mm0;w20;").take(), -9);
+        dueAll("the first CELL and the last", all(kingdomOf("mm0;b05;g00;k00;").take(), kingdomOf("mm0;k24;").take()), 0, 24);
         due("soonest: 8 STEPS by 8, 9 by 4", kingdomOf("ms1;k04;k08;").take(), 8);
         due("the least: 14 STEPS by 5 and by 12, 17 as it is", kingdomOf("ml0;k05;k12;").take(), 5);
     }
@@ -423,6 +438,7 @@ public final class PromiseTest {
         due("soonest: 8 STEPS by 8, 9 by 4", kingdomOf("ms4;c082;c043;").flat(), 8);
         due("the least: 11 STEPS by 17 and by 21", kingdomOf("ml2;c214;c172;").flat(), 17);
         due("nothing to be sooner", kingdomOf("mm0;").flat(), -9);
+        dueAll("the first CELL and the last", all(kingdomOf("mm0;b05;g00;c001;").flat(), kingdomOf("mm0;c241;").flat()), 0, 24);
     }
 
     private static void mostWeight() {
@@ -441,6 +457,8 @@ public final class PromiseTest {
         dueAll("start", all(x.start(0), x.start(1)), 19, 1);
         x.goal(12);
         dueAll("start", all(x.start(0), x.start(1)), 7, 1);
+        x.goal(5);
+        dueAll("start", all(x.start(0), x.start(1)), 0, 1);
         x.weighs(7);
         dueAll("start", all(x.start(0), x.start(1)), -9, -9);
         dueAll("without MINISTERS", all(new SovereignInBarrow().start(0), new SovereignInBarrow().start(1)), -9, -9);
@@ -469,6 +487,8 @@ public final class PromiseTest {
         dueAll("far", all(x.far(0), x.far(1), x.far(2), x.far(3)), 4, 3, 7, 4);
         x.goal(7);
         dueAll("far, AT the GOAL", all(x.far(0), x.far(3)), 0, 1);
+        x.heaps(1, 8);
+        due("far(1)", x.far(1), 1);
         x.heaps(24, 9);
         due("far(1)", x.far(1), 24);
         due("far(1), all as high", new SovereignInBarrow().far(1), 0);
@@ -481,6 +501,9 @@ public final class PromiseTest {
         due("easy(0)", x.easy(0), 1 << 13 | 1 << 17);
         x.stands(24);
         due("easy(0), AT the GOAL", x.easy(0), 1 << 23 | 1 << 19);
+        x.weighs(6);
+        due("easy(0), just held", x.easy(0), 1 << 23 | 1 << 19);
+        due("easy(0) by the first", kingdomOf("mr0;mm0;w07;x0;").easy(0), 0);
         SovereignInBarrow sure = kingdomOf("mm9;mr0;mr1;mr9;w02;");
         due("easy(1)", sure.easy(1), 15);
         sure.weighs(5);
@@ -500,6 +523,8 @@ public final class PromiseTest {
         SovereignInBarrow other = kingdomOf("md0;mm1;x0;k10;");
         dueAll("two", all(other.two(0, 1, 23), other.two(1, 0, 23)), 1, 1);
         due("both", kingdomOf("mo2;mo1;mm2;c053;").two(0, 1, 24), 11);
+        due("stepping back saves no more than it costs", kingdomOf("mr0;mm0;x0;k05;").two(0, 1, 9), 0);
+        due("nor for the lesser", kingdomOf("mm0;mr0;k05;").two(0, 1, 9), 0);
         dueAll("nothing changed", all(x.then(0, 1), x.count(1)), 0, 0);
         no(x, "two(0, 0, -1)", -1, () -> x.two(0, 0, -1));
         no(x, "two(2, 0, 0)", -1, () -> x.two(2, 0, 0));
@@ -518,7 +543,8 @@ public final class PromiseTest {
         dueAll("plank, n 2, cut", all(x.plank(5, 2, 2, 0), x.plank(5, 2, 2, 1)), 1, 2);
         dueAll("plank, n 7", all(x.plank(0, 7, 20, 0), x.plank(0, 7, 20, 1), x.plank(15, 7, 20, 0), x.plank(15, 7, 20, 1)),
                 1, 1280000000L, 48013, 256000000L);
-        dueAll("held all the same", all(kingdomOf("mm4;").plank(5, 1, 2, 0), kingdomOf("mm3;").plank(5, 1, 2, 1)), 1, 2);
+        dueAll("below the line, 10 held, and 9", all(kingdomOf("mm4;").plank(5, 1, 2, 1), kingdomOf("mm3;").plank(5, 1, 2, 1)), 1, 2);
+        dueAll("just held without", all(kingdomOf("mm0;w06;").plank(5, 1, 3, 0), kingdomOf("mm0;w06;").plank(5, 1, 3, 1)), 2, 3);
         no(x, "plank(25, -1, 1, 2)", -1, () -> x.plank(25, -1, 1, 2));
         no(x, "plank(-1, 0, 2, 0)", -1, () -> x.plank(-1, 0, 2, 0));
         no(x, "plank(0, -1, 21, 2)", -4, () -> x.plank(0, -1, 21, 2));

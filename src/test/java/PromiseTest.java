@@ -1,74 +1,5 @@
-import java.util.function.LongSupplier;
-
 /** Each promise of the document by itself: what is ordinary, the edges, what is refused. */
-public final class PromiseTest {
-    private static final long BIG = 4000000000000000000L;
-    private static int promise;
-    private static int wrong;
-
-    private static void due(String call, long got, long want) {
-        if (got != want) {
-            wrong++;
-            System.out.println("promise " + promise + ": " + call + " answered " + got + ", due is " + want);
-        }
-    }
-
-    /** The answers to a few calls of the same kind. */
-    private static void dueAll(String calls, long[] got, long... want) {
-        due(calls + ": how many", got.length, want.length);
-        for (int i = 0; i < Math.min(got.length, want.length); i++) {
-            due(calls + ", number " + i, got[i], want[i]);
-        }
-    }
-
-    private static long[] all(long... answers) {
-        return answers;
-    }
-
-    /** The call answers the refusal, counts it once, and counts no other. */
-    private static void no(SovereignInBarrow x, String call, int refusal, LongSupplier asked) {
-        int[] before = refusals(x);
-        long answer = asked.getAsLong();
-        boolean isLong = call.startsWith("plank") || call.startsWith("mean");
-        due(call, answer, isLong ? BIG - refusal : refusal);
-        int[] after = refusals(x);
-        for (int i = 0; i < 6; i++) {
-            due(call + ": count(" + (11 + i) + ")", after[i], before[i] + (i == -refusal - 1 ? 1 : 0));
-        }
-    }
-
-    private static int[] refusals(SovereignInBarrow x) {
-        int[] counts = new int[6];
-        for (int i = 0; i < 6; i++) {
-            counts[i] = x.count(11 + i);
-        }
-        return counts;
-    }
-
-    private static int told(SovereignInBarrow x, String text) {
-        for (int i = 0; i < text.length(); i++) {
-            x.letter(text.charAt(i));
-        }
-        return x.kingdom();
-    }
-
-    private static SovereignInBarrow kingdomOf(String text) {
-        SovereignInBarrow x = new SovereignInBarrow();
-        if (told(x, text) <= 0) {
-            wrong++;
-            System.out.println("promise " + promise + ": not told: " + text);
-        }
-        return x;
-    }
-
-    private static long[] path(SovereignInBarrow x, int n) {
-        long[] cells = new long[n + 1];
-        for (int i = 0; i <= n; i++) {
-            cells[i] = x.then(i, 0);
-        }
-        return cells;
-    }
-
+public final class PromiseTest extends Checks {
     private static void newObject() {
         SovereignInBarrow x = new SovereignInBarrow();
         for (int cell = 0; cell < 25; cell++) {
@@ -728,12 +659,9 @@ public final class PromiseTest {
             PromiseTest::mean, PromiseTest::whoPushed, PromiseTest::row, PromiseTest::judge, PromiseTest::clear,
             PromiseTest::lots, PromiseTest::image, PromiseTest::on, PromiseTest::count};
         for (int i = 0; i < promises.length; i++) {
-            promise = i + 1;
+            about = "promise " + (i + 1);
             promises[i].run();
         }
-        System.out.println(wrong == 0 ? promises.length + " promises hold" : wrong + " answers are not as due");
-        if (wrong != 0) {
-            System.exit(1);
-        }
+        end(promises.length + " promises hold");
     }
 }

@@ -159,7 +159,12 @@ public final class MindBoundaryTest extends Checks {
         due("5 higher", x.climb(13, 0), 5);
         dueAll("down is nothing, up again is", all(kingdomOf("c009;c015;c029;c055;").climb(2, 0), kingdomOf("c009;c018;c029;c055;").climb(2, 0)),
                 4, 1);
-        // From one corner to the other by 24 CELLS, each beside the one before alone without a climb.
+        SovereignInBarrow hole = kingdomOf("b12;c073;c113;c134;c175;");
+        dueAll("out of a hole, the first CELL and the last", all(hole.climb(0, 0), hole.climb(24, 0), hole.climb(13, 0), hole.climb(0, 1)),
+                3, 3, 4, 3);
+        hole.stands(0);
+        dueAll("and into it", all(hole.climb(12, 0), hole.climb(0, 0), hole.climb(24, 0)), 3, 0, 0);
+        // Two walls, each with a gap at one end: the way without a climb goes to and fro.
         SovereignInBarrow snake = kingdomOf("c059;c069;c079;c089;c159;c169;c179;c189;");
         dueAll("round", all(snake.climb(10, 0), snake.climb(20, 0), snake.climb(5, 0)), 0, 0, 9);
         SovereignInBarrow longest = kingdomOf("c059;c069;c079;c089;c169;c179;c189;c199;c241;");
